@@ -55,9 +55,6 @@ public final class NeverSaid {
         if (!isKind(kind) || !within(bold, 0, BOLD_MOST)) {
             return BAD;
         }
-        if (hall.peopleCount >= PEOPLE_MOST) {
-            return FULL;
-        }
         return hall.addPerson(kind, bold, 0);
     }
 
@@ -159,9 +156,6 @@ public final class NeverSaid {
     public int deed(int doers, int hour, int weight) {
         if (!hall.canBeDoers(doers) || !isHour(hour) || !within(weight, 0, WEIGHT_MOST)) {
             return BAD;
-        }
-        if (hall.deedCount >= DEEDS_MOST) {
-            return FULL;
         }
         return hall.addDeed(doers, hour, weight);
     }
@@ -320,13 +314,7 @@ public final class NeverSaid {
     public int text() {
         Text read = reader.readTape();
         tape.length = 0;
-        if (read == null) {
-            return -100 - reader.fault;
-        }
-        if (hall.textCount >= TEXTS_MOST) {
-            return FULL;
-        }
-        return hall.addText(read);
+        return read == null ? -100 - reader.fault : hall.addText(read);
     }
 
     public int textTold(int text, int what) {
@@ -813,7 +801,7 @@ public final class NeverSaid {
         }
 
         int addText(Text text) {
-            if (textCount >= TEXTS_MOST || !within(text.key, 0, KEYS - 1)) {
+            if (textCount >= TEXTS_MOST) {
                 return FULL;
             }
             texts[textCount] = text;
@@ -1083,18 +1071,18 @@ public final class NeverSaid {
         private static final int BLANK = 0, SIGN = 1, LETTERS = 2, DIGITS = 3, GLUED = 4, END = 5;
         private static final int TEST_LEVEL = 2, PIECE_LEVEL = 5;
 
-        final Tape tape;
+        private final Tape tape;
         /* Of each word or sign, and of the end behind them: what it is, where it starts, how long it is. */
-        final int[] sorts = new int[TAPE_MOST + 1];
-        final int[] starts = new int[TAPE_MOST + 1];
-        final int[] lengths = new int[TAPE_MOST + 1];
-        final int[] code = new int[TAPE_MOST];
+        private final int[] sorts = new int[TAPE_MOST + 1];
+        private final int[] starts = new int[TAPE_MOST + 1];
+        private final int[] lengths = new int[TAPE_MOST + 1];
+        private final int[] code = new int[TAPE_MOST];
         /* How many words and signs there are, and the one at hand. */
-        int words = 0;
-        int hand = 0;
-        int steps = 0;
-        int pieces = 0;
-        int key = NONE;
+        private int words = 0;
+        private int hand = 0;
+        private int steps = 0;
+        private int pieces = 0;
+        private int key = NONE;
         /* Where the FAULT is, NONE as long as there is none. */
         int fault = NONE;
 
@@ -1117,13 +1105,13 @@ public final class NeverSaid {
             return fault == NONE ? new Text(key, pieces, usedCode()) : null;
         }
 
-        int[] usedCode() {
+        private int[] usedCode() {
             int[] used = new int[steps];
             System.arraycopy(code, 0, used, 0, steps);
             return used;
         }
 
-        void splitTape() {
+        private void splitTape() {
             words = 0;
             int before = BLANK;
             for (int place = 0; place < tape.length; place++) {
@@ -1141,7 +1129,7 @@ public final class NeverSaid {
             lengths[words] = 0;
         }
 
-        void addWord(int sort, int place) {
+        private void addWord(int sort, int place) {
             if (words < TAPE_MOST) {
                 sorts[words] = sort;
                 starts[words] = place;
@@ -1150,7 +1138,7 @@ public final class NeverSaid {
             }
         }
 
-        static int sortOf(int sign) {
+        private static int sortOf(int sign) {
             if (within(sign, 'a', 'z')) {
                 return LETTERS;
             }
@@ -1161,24 +1149,24 @@ public final class NeverSaid {
         }
 
         /* Only the first FAULT counts: behind it nothing is read any more. */
-        void fail() {
+        private void fail() {
             if (fault == NONE) {
                 fault = starts[hand];
             }
         }
 
-        void goOn() {
+        private void goOn() {
             if (hand < words) {
                 hand++;
             }
         }
 
         /* The sign at hand, or NONE where there is a word or the end. */
-        int sign() {
+        private int sign() {
             return sorts[hand] == SIGN ? tape.at(starts[hand]) : NONE;
         }
 
-        void readKey() {
+        private void readKey() {
             key = isWord("may") ? MAY_KEY : isWord("cost") ? COST_KEY : isWord("bold") ? BOLD_KEY : NONE;
             if (key == NONE) {
                 fail();
@@ -1187,7 +1175,7 @@ public final class NeverSaid {
             }
         }
 
-        boolean isWord(String word) {
+        private boolean isWord(String word) {
             if (lengths[hand] != word.length()) {
                 return false;
             }
@@ -1200,7 +1188,7 @@ public final class NeverSaid {
         }
 
         /* One level of E, the loosest (OR) being 0; open and nots: how many ( and ! are open around it. */
-        void readSide(int level, int open, int nots) {
+        private void readSide(int level, int open, int nots) {
             if (fault != NONE) {
                 return;
             }
@@ -1218,7 +1206,7 @@ public final class NeverSaid {
             }
         }
 
-        static int levelOf(int sign) {
+        private static int levelOf(int sign) {
             switch (sign) {
                 case '|': return 0;
                 case '&': return 1;
@@ -1233,7 +1221,7 @@ public final class NeverSaid {
             }
         }
 
-        void readPiece(int open, int nots) {
+        private void readPiece(int open, int nots) {
             if (sorts[hand] == DIGITS) {
                 readNumber();
             } else if (sorts[hand] == LETTERS) {
@@ -1251,7 +1239,7 @@ public final class NeverSaid {
             }
         }
 
-        void readClose() {
+        private void readClose() {
             if (fault == NONE && sign() == ')') {
                 goOn();
             } else {
@@ -1259,7 +1247,7 @@ public final class NeverSaid {
             }
         }
 
-        void readNumber() {
+        private void readNumber() {
             if (lengths[hand] > DIGITS_MOST) {
                 fail();
                 return;
@@ -1271,7 +1259,7 @@ public final class NeverSaid {
             addPiece(number);
         }
 
-        void readName() {
+        private void readName() {
             int name = tape.at(starts[hand]);
             for (int i = 0; i < NAMES_OF_A_KEY; i++) {
                 int place = key * NAMES_OF_A_KEY + i;
@@ -1283,13 +1271,13 @@ public final class NeverSaid {
             fail();
         }
 
-        void addPiece(int step) {
+        private void addPiece(int step) {
             addStep(step);
             pieces++;
             goOn();
         }
 
-        void addStep(int step) {
+        private void addStep(int step) {
             if (steps < TAPE_MOST) {
                 code[steps] = step;
                 steps++;

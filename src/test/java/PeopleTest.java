@@ -213,7 +213,8 @@ public final class PeopleTest {
             due.is("followers", x.told(p, 4), 0);
         }
         due.is("z", x.count(8), z);
-        due.is("deal(12) with room for ten", x.deal(12), 10);
+        due.is("deal(1)", x.deal(1), 1);
+        due.is("deal(12) with room for nine", x.deal(12), 9);
         int full = x.count(8);
         due.is("deal(5) without room", x.deal(5), 0);
         due.is("no draws for others", x.count(8), full);

@@ -119,6 +119,18 @@ public final class TextsTest {
         faultAt("may S", 4);
         faultAt("may 1%2", 5);
         faultAt("may *", 4);
+        for (String key : new String[] {"may", "cost", "bold"}) {
+            for (int i = 0; i < key.length(); i++) {
+                faultAt(key.substring(0, i) + "x" + key.substring(i + 1) + " 1", 0);
+            }
+            faultAt(key.substring(1) + " 1", 0);
+            faultAt(key + key + " 1", 0);
+        }
+        faultAt("(".repeat(96), 0);
+        faultAt("may" + "!".repeat(8) + "1" + "+".repeat(84), 13);
+        faultAt(" ".repeat(96), 96);
+        faultAt("m ".repeat(48), 0);
+        faultAt("1a".repeat(48), 0);
     }
 
     private static void faultsOfDepth() {
