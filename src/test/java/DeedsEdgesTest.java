@@ -5,6 +5,7 @@ public final class DeedsEdgesTest {
     private static final int SPEAKER = 0, SURE = 1, LOYAL = 2, ORDERED = 3, BOUGHT = 4, LYING = 5;
     private static final Due due = new Due();
     private static final Refused refused = new Refused(due);
+    private static final Refused.Making NO_TO_ALL = DeedsEdgesTest::noToAll;
 
     public static void main(String[] args) {
         eightAtMost();
@@ -381,10 +382,10 @@ public final class DeedsEdgesTest {
 
     /** "BAD; NO": of several the one that stands first, whichever of the three is BAD. */
     private static void badAheadOfNo() {
-        refused.each("the text says no to all: say(s, 1, 5)", DeedsEdgesTest::noToAll, (x, v) -> x.say(v, 1, 5), BAD, -1, 7);
-        refused.each("the text says no to all: say(0, deed, 5)", DeedsEdgesTest::noToAll, (x, v) -> x.say(0, v, 5), BAD, -1, 3);
-        refused.each("the text says no to all: say(0, 1, p)", DeedsEdgesTest::noToAll, (x, v) -> x.say(0, 1, v), BAD, -1, 7);
-        refused.is("the text says no to all: say(0, 1, 5)", DeedsEdgesTest::noToAll, x -> x.say(0, 1, 5), NO);
+        refused.each("the text says no to all: say(s, 1, 5)", NO_TO_ALL, (x, v) -> x.say(v, 1, 5), BAD, -1, 7);
+        refused.each("the text says no to all: say(0, deed, 5)", NO_TO_ALL, (x, v) -> x.say(0, v, 5), BAD, -1, 3);
+        refused.each("the text says no to all: say(0, 1, p)", NO_TO_ALL, (x, v) -> x.say(0, 1, v), BAD, -1, 7);
+        refused.is("the text says no to all: say(0, 1, 5)", NO_TO_ALL, x -> x.say(0, 1, 5), NO);
         refused.is("without deeds", () -> Busy.speakers(4), x -> x.say(0, 0, 1), BAD);
     }
 
@@ -430,8 +431,8 @@ public final class DeedsEdgesTest {
         refused.each("choice(0, deed)", Busy::hall, (x, v) -> x.choice(0, v), BAD, -1, 3, 8, MIN, MAX);
         refused.each("full: choice(s, 0)", Busy::full, (x, v) -> x.choice(v, 0), BAD, -1, 12);
         refused.each("full: choice(0, deed)", Busy::full, (x, v) -> x.choice(0, v), BAD, -1, 8);
-        refused.each("nobody for whom: choice(s, 1)", DeedsEdgesTest::noToAll, (x, v) -> x.choice(v, 1), BAD, -1, 7);
-        refused.each("nobody for whom: choice(s, 1)", DeedsEdgesTest::noToAll, (x, v) -> x.choice(v, 1), NONE, 0, 6);
+        refused.each("nobody for whom: choice(s, 1)", NO_TO_ALL, (x, v) -> x.choice(v, 1), BAD, -1, 7);
+        refused.each("nobody for whom: choice(s, 1)", NO_TO_ALL, (x, v) -> x.choice(v, 1), NONE, 0, 6);
         refused.is("a choice that there is", Busy::hall, x -> x.choice(0, 1), 0);
     }
 
@@ -468,6 +469,12 @@ public final class DeedsEdgesTest {
         }
         due.is("sure: nobody, though it may be", sure.choice(0, 0), NONE);
         due.is("ordered: nobody, though it may be", ordered.choice(0, 0), NONE);
+        NeverSaid first = kind(ORDERED, 12, 1 << 11);
+        for (int p = 10; p >= 0; p--) {
+            due.is("ordered, down to the first", first.choice(11, 0), p);
+            first.say(0, 0, p);
+        }
+        due.is("ordered, the doer alone is left", first.choice(11, 0), NONE);
         NeverSaid none = kind(SURE, 2, 3);
         due.is("sure, all are doers", none.choice(0, 0), NONE);
         none.turns(0, ORDERED);
@@ -601,7 +608,8 @@ public final class DeedsEdgesTest {
 
     /** "what bold gives, held within 0 .. 100", with the least and the greatest that it can give. */
     private static void boldByAText() {
-        String[] laws = {"0-1", "0", "1", "99", "100", "101", "2048*1024*1024-1", "2048*1024*1024", "b", "b-50", "b+50"};
+        String[] laws = {"0-1", "0", "1", "99", "100", "101", "2048*1024*1024-1", "2048*1024*1024", "b", "b-50",
+            "b+50"};
         int[] gives = {0, 0, 1, 99, 100, 100, 100, 0, 50, 0, 100};
         for (int rest : new int[] {0, 1, 49, 50, 98, 99}) {
             for (int i = 0; i < laws.length; i++) {

@@ -20,6 +20,8 @@ public final class ImagesEdgesTest {
         checkChangesNothingElse();
         checkLiesOfThatDeed();
         checkByTheImage();
+        checkByItsTexts();
+        checkByItsWeight();
         keepHowMany();
         keepTheLatest();
         backWithoutImage();
@@ -257,6 +259,38 @@ public final class ImagesEdgesTest {
         due.is("by a later one", checkOf(x, 6, told), 1);
     }
 
+    /** The texts of the image count, all fourteen of them, though others were told later. */
+    private static void checkByItsTexts() {
+        NeverSaid x = hall();
+        for (int i = 0; i < 12; i++) {
+            Due.text(x, "may 0");
+        }
+        Due.text(x, "bold (s=1)*100");
+        Due.text(x, "may p=3");
+        x.keep();
+        due.is("one speaks, of 3 alone", checkOf(x, 2, new int[] {4, 0, 4, 0}), 0);
+        NeverSaid y = hall();
+        Due.text(y, "bold 0");
+        y.keep();
+        Due.text(y, "bold 100");
+        due.is("nobody speaks", checkOf(y, 1, new int[] {5, 0}), 0);
+    }
+
+    /** A DEED is as heavy in the image: one who is BOUGHT keeps silent, or does not. */
+    private static void checkByItsWeight() {
+        for (int weight : new int[] {49, 50, 51, 99}) {
+            NeverSaid x = hall();
+            x.deed(2, 23, weight);
+            x.turns(4, 4);
+            x.bolder(4, 50);
+            Due.text(x, "bold (s=4)*100");
+            x.keep();
+            x.tell(weight <= 50 ? 4 : 5);
+            x.tell(0);
+            due.is("weight " + weight, x.check(1, 1), 0);
+        }
+    }
+
     /** "AN IMAGE is kept: how many of PEOPLE.": from nobody to twelve. */
     private static void keepHowMany() {
         for (int many = 0; many <= 12; many++) {
@@ -327,7 +361,8 @@ public final class ImagesEdgesTest {
                     ImagesEdgesTest::keptHall);
         }
         refused.isThen("back from all", () -> changed(0, 15), NeverSaid::back, 7, ImagesEdgesTest::keptHall);
-        refused.isThen("back from texts", ImagesEdgesTest::withTexts, NeverSaid::back, 7, ImagesEdgesTest::keptWithoutTape);
+        refused.isThen("back from texts", ImagesEdgesTest::withTexts, NeverSaid::back, 7,
+                ImagesEdgesTest::keptWithoutTape);
     }
 
     private static NeverSaid changed(int first, int last) {

@@ -9,6 +9,7 @@ public final class SheetsEdgesTest {
     private static final int[] OF = {1, 3, 5, 11, 21, 33};
     private static final Due due = new Due();
     private static final Refused refused = new Refused(due);
+    private static final Refused.Making ROWS = SheetsEdgesTest::rows;
 
     public static void main(String[] args) {
         sheetPlaces();
@@ -159,7 +160,8 @@ public final class SheetsEdgesTest {
 
     /** "of shorts its lowest 16 bits". */
     private static void markShorts() {
-        int[] v = {0, 1, -1, 32767, 32768, 32769, -32768, -32769, 65535, 65536, 65537, MIN, MAX, BAD, NONE - 1, NONE + 1};
+        int[] v = {0, 1, -1, 32767, 32768, 32769, -32768, -32769, 65535, 65536, 65537, MIN, MAX, BAD, NONE - 1,
+            NONE + 1};
         int[] is = {0, 1, -1, 32767, -32768, -32767, -32768, 32767, -1, 0, 1, 0, -1, (short) BAD, (short) (NONE - 1),
             (short) (NONE + 1)};
         NeverSaid x = new NeverSaid();
@@ -291,9 +293,16 @@ public final class SheetsEdgesTest {
             x.person(0, 50);
             due.is("who comes later is as told", x.told(3, 1), 50);
         }
-        NeverSaid x = new NeverSaid();
-        x.sheet(0, SHORTS, 24);
-        due.is("nobody is there", x.pour(0), 0);
+        for (int many : new int[] {0, 1, 11, 12}) {
+            NeverSaid x = Busy.speakers(many);
+            x.sheet(0, SHORTS, 24);
+            for (int i = 0; i < 24; i++) {
+                x.mark(0, i, 7);
+            }
+            due.is("24 places for " + many, x.pour(0), many);
+            due.is("as many are there", x.count(0), many);
+            due.is("again", x.pour(0), 0);
+        }
     }
 
     /** "pour .. BAD; NOTHING." */
@@ -379,7 +388,7 @@ public final class SheetsEdgesTest {
         refused.is("reads of one without places", Busy::hall, x -> x.reads(2), NONE);
     }
 
-    /** Rows of shorts, 5 places and 3 places, with other numbers in each place; then floats, then one that is missing. */
+    /** Shorts with 5 places, and with 3, with other numbers in each place; then floats, then one that is missing. */
     private static NeverSaid rows() {
         NeverSaid x = new NeverSaid();
         x.sheet(0, SHORTS, 5);
@@ -421,21 +430,21 @@ public final class SheetsEdgesTest {
         int[][] far = {{MAX, 0, 1}, {0, MAX, 1}, {0, 0, MAX}, {1, 1, MAX}, {MAX, MAX, MAX}, {MIN, 0, 1}, {0, MIN, 1},
             {0, 0, MIN}, {MIN, MIN, MIN}, {MAX, 0, 0}, {0, MAX, 0}};
         for (int[] f : far) {
-            refused.is("far away", SheetsEdgesTest::rows, x -> x.copy(0, f[0], 1, f[1], f[2]), INDEX);
+            refused.is("far away", ROWS, x -> x.copy(0, f[0], 1, f[1], f[2]), INDEX);
         }
     }
 
     /** "(many 0: not at the place behind the last one)": there it is no INDEX; further on, and below 0, it is. */
     private static void copyOfNone() {
-        refused.is("from the place behind the last one", SheetsEdgesTest::rows, x -> x.copy(0, 5, 1, 0, 0), 0);
-        refused.is("to the place behind the last one", SheetsEdgesTest::rows, x -> x.copy(0, 0, 1, 3, 0), 0);
-        refused.is("both", SheetsEdgesTest::rows, x -> x.copy(0, 5, 1, 3, 0), 0);
-        refused.is("from further on", SheetsEdgesTest::rows, x -> x.copy(0, 6, 1, 0, 0), INDEX);
-        refused.is("to further on", SheetsEdgesTest::rows, x -> x.copy(0, 0, 1, 4, 0), INDEX);
-        refused.is("from below 0", SheetsEdgesTest::rows, x -> x.copy(0, -1, 1, 0, 0), INDEX);
-        refused.is("to below 0", SheetsEdgesTest::rows, x -> x.copy(0, 0, 1, -1, 0), INDEX);
-        refused.is("one from behind the last one", SheetsEdgesTest::rows, x -> x.copy(0, 5, 1, 0, 1), INDEX);
-        refused.is("one to behind the last one", SheetsEdgesTest::rows, x -> x.copy(0, 0, 1, 3, 1), INDEX);
+        refused.is("from the place behind the last one", ROWS, x -> x.copy(0, 5, 1, 0, 0), 0);
+        refused.is("to the place behind the last one", ROWS, x -> x.copy(0, 0, 1, 3, 0), 0);
+        refused.is("both", ROWS, x -> x.copy(0, 5, 1, 3, 0), 0);
+        refused.is("from further on", ROWS, x -> x.copy(0, 6, 1, 0, 0), INDEX);
+        refused.is("to further on", ROWS, x -> x.copy(0, 0, 1, 4, 0), INDEX);
+        refused.is("from below 0", ROWS, x -> x.copy(0, -1, 1, 0, 0), INDEX);
+        refused.is("to below 0", ROWS, x -> x.copy(0, 0, 1, -1, 0), INDEX);
+        refused.is("one from behind the last one", ROWS, x -> x.copy(0, 5, 1, 0, 1), INDEX);
+        refused.is("one to behind the last one", ROWS, x -> x.copy(0, 0, 1, 3, 1), INDEX);
         NeverSaid x = new NeverSaid();
         x.sheet(0, FLOATS, 0);
         due.is("within a row of none", x.copy(0, 0, 0, 0, 0), 0);
@@ -448,8 +457,8 @@ public final class SheetsEdgesTest {
     /** "INDEX (many below 0, too ..)", wherever it would be. */
     private static void copyManyBelowZero() {
         for (int many : new int[] {-1, -2, -5, MIN}) {
-            refused.is("many " + many, SheetsEdgesTest::rows, x -> x.copy(0, 2, 1, 2, many), INDEX);
-            refused.is("many " + many + " from the end", SheetsEdgesTest::rows, x -> x.copy(0, 5, 1, 3, many), INDEX);
+            refused.is("many " + many, ROWS, x -> x.copy(0, 2, 1, 2, many), INDEX);
+            refused.is("many " + many + " from the end", ROWS, x -> x.copy(0, 5, 1, 3, many), INDEX);
         }
     }
 
@@ -498,27 +507,27 @@ public final class SheetsEdgesTest {
 
     /** "BAD; NOTHING; KIND: they are not of one sort; INDEX", each alone; "KIND" either way. */
     private static void copyRefused() {
-        refused.each("copy(from, 0, 0, 0, 1)", SheetsEdgesTest::rows, (x, v) -> x.copy(v, 0, 0, 0, 1), BAD, -1, 4, MIN, MAX);
-        refused.each("copy(0, 0, to, 0, 1)", SheetsEdgesTest::rows, (x, v) -> x.copy(0, 0, v, 0, 1), BAD, -1, 4, MIN, MAX);
-        refused.is("from a missing one", SheetsEdgesTest::rows, x -> x.copy(3, 0, 0, 0, 0), NOTHING);
-        refused.is("to a missing one", SheetsEdgesTest::rows, x -> x.copy(0, 0, 3, 0, 0), NOTHING);
-        refused.is("within a missing one", SheetsEdgesTest::rows, x -> x.copy(3, 0, 3, 0, 0), NOTHING);
-        refused.is("shorts to floats", SheetsEdgesTest::rows, x -> x.copy(0, 0, 2, 0, 1), KIND);
-        refused.is("floats to shorts", SheetsEdgesTest::rows, x -> x.copy(2, 0, 0, 0, 1), KIND);
-        refused.is("none of shorts to floats", SheetsEdgesTest::rows, x -> x.copy(0, 0, 2, 0, 0), KIND);
+        refused.each("copy(from, 0, 0, 0, 1)", ROWS, (x, v) -> x.copy(v, 0, 0, 0, 1), BAD, -1, 4, MIN, MAX);
+        refused.each("copy(0, 0, to, 0, 1)", ROWS, (x, v) -> x.copy(0, 0, v, 0, 1), BAD, -1, 4, MIN, MAX);
+        refused.is("from a missing one", ROWS, x -> x.copy(3, 0, 0, 0, 0), NOTHING);
+        refused.is("to a missing one", ROWS, x -> x.copy(0, 0, 3, 0, 0), NOTHING);
+        refused.is("within a missing one", ROWS, x -> x.copy(3, 0, 3, 0, 0), NOTHING);
+        refused.is("shorts to floats", ROWS, x -> x.copy(0, 0, 2, 0, 1), KIND);
+        refused.is("floats to shorts", ROWS, x -> x.copy(2, 0, 0, 0, 1), KIND);
+        refused.is("none of shorts to floats", ROWS, x -> x.copy(0, 0, 2, 0, 0), KIND);
     }
 
     /** Of several the one that stands first. */
     private static void copyFirstRefusal() {
-        refused.each("copy(from, -1, 3, -1, -1)", SheetsEdgesTest::rows, (x, v) -> x.copy(v, -1, 3, -1, -1), BAD, -1, 4);
-        refused.each("copy(3, -1, to, -1, -1)", SheetsEdgesTest::rows, (x, v) -> x.copy(3, -1, v, -1, -1), BAD, -1, 4);
-        refused.each("copy(0, 0, 3, 0, many)", SheetsEdgesTest::rows, (x, v) -> x.copy(0, 0, 3, 0, v), NOTHING, -1, 9);
-        refused.each("copy(3, 0, 0, 0, many)", SheetsEdgesTest::rows, (x, v) -> x.copy(3, 0, 0, 0, v), NOTHING, -1, 9);
-        refused.each("copy(0, 0, 2, 0, many)", SheetsEdgesTest::rows, (x, v) -> x.copy(0, 0, 2, 0, v), KIND, -1, 9);
-        refused.each("copy(0, place, 2, 0, 1)", SheetsEdgesTest::rows, (x, v) -> x.copy(0, v, 2, 0, 1), KIND, -1, 9);
+        refused.each("copy(from, -1, 3, -1, -1)", ROWS, (x, v) -> x.copy(v, -1, 3, -1, -1), BAD, -1, 4);
+        refused.each("copy(3, -1, to, -1, -1)", ROWS, (x, v) -> x.copy(3, -1, v, -1, -1), BAD, -1, 4);
+        refused.each("copy(0, 0, 3, 0, many)", ROWS, (x, v) -> x.copy(0, 0, 3, 0, v), NOTHING, -1, 9);
+        refused.each("copy(3, 0, 0, 0, many)", ROWS, (x, v) -> x.copy(3, 0, 0, 0, v), NOTHING, -1, 9);
+        refused.each("copy(0, 0, 2, 0, many)", ROWS, (x, v) -> x.copy(0, 0, 2, 0, v), KIND, -1, 9);
+        refused.each("copy(0, place, 2, 0, 1)", ROWS, (x, v) -> x.copy(0, v, 2, 0, 1), KIND, -1, 9);
     }
 
-    /** "A SLOT holds: thing 0 nothing (k any), 1 .., 2 .., 3 the number k: what it held (0 .. 3)": one behind another. */
+    /** "A SLOT holds: thing 0 nothing .., 3 the number k: what it held (0 .. 3)": each thing behind each. */
     private static void layThings() {
         for (int slot = 0; slot < 5; slot++) {
             NeverSaid x = Busy.speakers(1);
@@ -665,8 +674,8 @@ public final class SheetsEdgesTest {
     /** "The rest of the number in a SLOT by n"; "/ cuts towards 0": the rest has the number's sign. */
     private static void restCutsTowardsZero() {
         int[][] cases = {{17, 5, 2}, {-17, 5, -2}, {17, -5, 2}, {-17, -5, -2}, {15, 5, 0}, {-15, 5, 0}, {4, 5, 4},
-            {5, 5, 0}, {6, 5, 1}, {0, 5, 0}, {7, 1, 0}, {7, -1, 0}, {MIN, -1, 0}, {MIN, 1, 0}, {MIN, MIN, 0}, {MIN, MAX, -1},
-            {MAX, MIN, MAX}, {MAX, MAX, 0}, {MIN, 10, -8}, {MAX, 10, 7}};
+            {5, 5, 0}, {6, 5, 1}, {0, 5, 0}, {7, 1, 0}, {7, -1, 0}, {MIN, -1, 0}, {MIN, 1, 0}, {MIN, MIN, 0},
+            {MIN, MAX, -1}, {MAX, MIN, MAX}, {MAX, MAX, 0}, {MIN, 10, -8}, {MAX, 10, 7}};
         for (int[] c : cases) {
             NeverSaid x = new NeverSaid();
             x.lay(0, 3, c[0]);

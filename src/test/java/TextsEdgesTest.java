@@ -209,6 +209,9 @@ public final class TextsEdgesTest {
                 read(key.substring(0, end) + " 1", 0);
                 read(key.substring(0, end) + " " + key.substring(end) + " 1", 0);
             }
+            for (int i = 0; i < key.length(); i++) {
+                read(key.substring(0, i) + "x" + key.substring(i + 1) + " 1", 0);
+            }
             read(key + "s 1", 0);
             read("a" + key + " 1", 0);
             read(key.toUpperCase(java.util.Locale.ROOT) + " 1", 0);
@@ -416,6 +419,8 @@ public final class TextsEdgesTest {
             gives("0-" + n + "<0-5", n > 5 ? 1 : 0);
             gives("0-" + n + ">0-5", n < 5 ? 1 : 0);
             gives("7+(" + n + "<5)", n < 5 ? 8 : 7);
+            gives("7+(" + n + "=5)", n == 5 ? 8 : 7);
+            gives("7+(" + n + ">5)", n > 5 ? 8 : 7);
         }
         gives("0-1<0", 1);
         gives("0<0", 0);
@@ -427,11 +432,11 @@ public final class TextsEdgesTest {
         String[] all = {"0", "1", "2", "4", "(0-1)", "(2048*1024*1024)", "(256*256*256*256)"};
         boolean[] is = {false, true, true, true, true, true, false};
         for (int i = 0; i < all.length; i++) {
-            gives("!" + all[i], is[i] ? 0 : 1);
-            gives("!!" + all[i], is[i] ? 1 : 0);
+            gives("7+!" + all[i], is[i] ? 7 : 8);
+            gives("7+!!" + all[i], is[i] ? 8 : 7);
             for (int k = 0; k < all.length; k++) {
-                gives(all[i] + "&" + all[k], is[i] && is[k] ? 1 : 0);
-                gives(all[i] + "|" + all[k], is[i] || is[k] ? 1 : 0);
+                gives("7+(" + all[i] + "&" + all[k] + ")", is[i] && is[k] ? 8 : 7);
+                gives("7+(" + all[i] + "|" + all[k] + ")", is[i] || is[k] ? 8 : 7);
             }
         }
     }
