@@ -32,8 +32,8 @@ public final class NeverSaid {
     private final Hall image = new Hall();
     /* Rounds that are only told are played here, so that neither the hall nor the image moves. */
     private final Hall trial = new Hall();
-    private final Tape tape = new Tape();
-    private final Reader reader = new Reader(tape);
+    private final Reader reader = new Reader();
+    private final Tape tape = reader.tape;
     private final Sheet[] sheets = new Sheet[SHEETS];
     private final Slot[] slots = new Slot[SLOTS];
     private final int[] waiting = new int[WAITING_MOST];
@@ -1014,7 +1014,7 @@ public final class NeverSaid {
 
         /* The byte there, 0 .. 255, or NONE beyond the ends. */
         int at(int place) {
-            return within(place, 0, length - 1) ? bytes[place] & 255 : NONE;
+            return place >= 0 && place < length ? bytes[place] & 255 : NONE;
         }
     }
 
@@ -1071,7 +1071,7 @@ public final class NeverSaid {
         private static final int BLANK = 0, SIGN = 1, LETTERS = 2, DIGITS = 3, GLUED = 4, END = 5;
         private static final int TEST_LEVEL = 2, PIECE_LEVEL = 5;
 
-        private final Tape tape;
+        final Tape tape = new Tape();
         /* Of each word or sign, and of the end behind them: what it is, where it starts, how long it is. */
         private final int[] sorts = new int[TAPE_MOST + 1];
         private final int[] starts = new int[TAPE_MOST + 1];
@@ -1085,10 +1085,6 @@ public final class NeverSaid {
         private int key = NONE;
         /* Where the FAULT is, NONE as long as there is none. */
         int fault = NONE;
-
-        Reader(Tape toRead) {
-            tape = toRead;
-        }
 
         /* The TEXT, or null: then fault tells the place. */
         Text readTape() {

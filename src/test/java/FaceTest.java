@@ -26,6 +26,8 @@ public final class FaceTest {
             + " int check(int,int); int keep(); int back(); int count(int)";
     private static final String FORBIDDEN = "\\b(throw|throws|try|catch|finally|synchronized|assert|import|package|new"
             + " Object|hashCode|toString|equals|NaN|System\\.(?!arraycopy))\\b|->|::|Exact\\b|volatile|Thread|Random";
+    private static final Set<Class<?>> STATIC_TYPES = Set.of(int.class, long.class, boolean.class, char.class,
+            String.class, int[].class, long[].class, char[].class, byte[].class);
     private static final Due due = new Due();
 
     public static void main(String[] args) throws IOException {
@@ -33,7 +35,12 @@ public final class FaceTest {
         fields();
         constructors();
         nestedClasses();
+        rulesOf(NeverSaid.class);
+        for (Class<?> c : NeverSaid.class.getDeclaredClasses()) {
+            rulesOf(c);
+        }
         sourceText();
+        methodsAreShort();
         due.end();
     }
 
@@ -101,6 +108,41 @@ public final class FaceTest {
             }
             due.is(c + " has some twenty fields at most", fields <= 20 ? 1 : 0, 1);
         }
+    }
+
+    /** Seven parameters at most; static fields are final, and numbers, texts, or rows of numbers. */
+    private static void rulesOf(Class<?> c) {
+        for (Method m : c.getDeclaredMethods()) {
+            due.is(m + " has seven parameters at most", m.getParameterCount() <= 7 ? 1 : 0, 1);
+        }
+        for (Field f : c.getDeclaredFields()) {
+            if (Modifier.isStatic(f.getModifiers())) {
+                due.is(f + " is final", Modifier.isFinal(f.getModifiers()) ? 1 : 0, 1);
+                due.is(f + " may be static", STATIC_TYPES.contains(f.getType()) ? 1 : 0, 1);
+            }
+        }
+    }
+
+    private static void methodsAreShort() throws IOException {
+        int start = 0;
+        int methods = 0;
+        List<String> lines = Files.readAllLines(SOURCE);
+        for (int i = 0; i < lines.size(); i++) {
+            String line = lines.get(i);
+            boolean isHead = line.matches("(    |        )(?! |if|for|while|switch)[\\w\\[\\] ]+\\(.*\\) \\{");
+            start = isHead ? i : start;
+            boolean isEnd = start > 0 && line.equals(indentOf(lines.get(start)) + "}");
+            if (isEnd) {
+                due.is(lines.get(start).trim() + " .. is short", i - start < 60 ? 1 : 0, 1);
+                start = 0;
+                methods++;
+            }
+        }
+        due.is("many methods are looked at", methods > 100 ? 1 : 0, 1);
+    }
+
+    private static String indentOf(String line) {
+        return line.substring(0, line.length() - line.stripLeading().length());
     }
 
     private static void sourceText() throws IOException {
